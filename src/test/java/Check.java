@@ -1,0 +1,57 @@
+/** Compares answers with those that are due, and ends a test with exit code 1 if one was wrong. */
+final class Check {
+    interface Call {
+        Object answer();
+    }
+
+    private static int right = 0;
+    private static int wrong = 0;
+
+    private Check() {
+    }
+
+    static void same(String what, Object got, Object due) {
+        if (due.equals(got)) {
+            right++;
+        } else {
+            wrong++;
+            System.out.println(what + " is " + got + ", due is " + due);
+        }
+    }
+
+    static void index(SharedForks forks, String what, Call call) {
+        refused(forks, what, call, IndexOutOfBoundsException.class);
+    }
+
+    static void state(SharedForks forks, String what, Call call) {
+        refused(forks, what, call, IllegalStateException.class);
+    }
+
+    static void argument(SharedForks forks, String what, Call call) {
+        refused(forks, what, call, IllegalArgumentException.class);
+    }
+
+    /** The very exception is due, and that the object answers as before. */
+    private static void refused(SharedForks forks, String what, Call call, Class<?> due) {
+        long before = forks.digest();
+        Object outcome = outcome(call);
+        same(what, outcome, due.getName());
+        same("digest after " + what, forks.digest(), before);
+    }
+
+    /** What a call answers, or the name of the class of what it throws. */
+    static Object outcome(Call call) {
+        try {
+            return call.answer();
+        } catch (RuntimeException e) {
+            return e.getClass().getName();
+        }
+    }
+
+    static void end() {
+        System.out.println(right + " answers as due, " + wrong + " not");
+        if (wrong > 0 || right == 0) {
+            System.exit(1);
+        }
+    }
+}
