@@ -22,6 +22,7 @@ public final class FoldsTest {
         without();
         withoutRefuses();
         drop();
+        nothingStaysOfADroppedFold();
         smallestFreeNumber();
         fullObjectRefuses();
         wrongArgumentComesBeforeFullObject();
@@ -239,6 +240,35 @@ public final class FoldsTest {
         Check.index(f, "drop 12", () -> f.drop(12));
         Check.same("drop of the last", f.drop(0), 0);
         Check.same("forks of none", f.count(1), 0);
+    }
+
+    /** A new fold with the number of a dropped one says its own at both ends of the answers. */
+    private static void nothingStaysOfADroppedFold() {
+        SharedForks f = new SharedForks();
+        int yes = f.ask(7);
+        int no = f.join(yes, yes, 3);
+        for (boolean stale : new boolean[] {true, false}) {
+            ends(f, stale, "leaf", () -> f.leaf(!stale), stale ? 0 : 3);
+            ends(f, stale, "ask", () -> f.ask(0), 2);
+            ends(f, stale, "join", () -> f.join(yes, no, 0), 0);
+            ends(f, stale, "join", () -> f.join(yes, no, 1), 3);
+            ends(f, stale, "choose", () -> f.choose(yes, no, yes), 0);
+            ends(f, stale, "choose", () -> f.choose(yes, yes, no), 3);
+            ends(f, stale, "given", () -> f.given(yes, 7, false), 0);
+            ends(f, stale, "given", () -> f.given(yes, 7, true), 3);
+            ends(f, stale, "without", () -> f.without(yes, 7, true), 0);
+            ends(f, stale, "without", () -> f.without(yes, 7, false), 3);
+        }
+    }
+
+    /** Looks at what a fold says to 0 (1 if yes) and to 255 (2) that is made where one said the same to all. */
+    private static void ends(SharedForks f, boolean stale, String name, Check.Call made, int due) {
+        int dropped = f.leaf(stale);
+        f.drop(dropped);
+        Check.same("number of " + name, made.answer(), dropped);
+        int ends = (f.says(dropped, 0) ? 1 : 0) + (f.says(dropped, 255) ? 2 : 0);
+        Check.same("ends of " + name + " where all was " + stale, ends, due);
+        f.drop(dropped);
     }
 
     private static void smallestFreeNumber() {

@@ -12,6 +12,7 @@ public final class WhatThereIsTest {
         aboutAQuestion();
         aboutLeaves();
         aboutAMixedFold();
+        aboutFoldsWithOneYes();
         ownForks();
         asked();
         compare();
@@ -160,6 +161,35 @@ public final class WhatThereIsTest {
         about(f, 7, 1, 128, 2, 1, 1, 0, 253, 0);
         f.given(6, 7, true);
         about(f, 8, 2, 64, 12, 1, 2, 12, 255, 0);
+    }
+
+    /** Yes to 0 alone, and to 255 alone; these two differ from a leaf in the very last answers. */
+    private static void aboutFoldsWithOneYes() {
+        SharedForks f = new SharedForks();
+        int no = f.leaf(false);
+        int any = f.leaf(false);
+        int all = f.leaf(true);
+        for (int question = 0; question < 8; question++) {
+            int asked = f.ask(question);
+            any = replace(f, any, f.join(any, asked, 1));
+            all = replace(f, all, f.join(all, asked, 0));
+            f.drop(asked);
+        }
+        int none = f.join(any, any, 4);
+        about(f, none, 8, 1, 255, 1, 8, 0, 0, 8);
+        about(f, all, 8, 1, 255, 1, 8, 255, 255, 7);
+        about(f, any, 8, 255, 255, 1, 8, 1, 255, 7);
+        Check.same("none with no", f.compare(none, no), 2);
+        Check.same("no with none", f.compare(no, none), 1);
+        Check.same("none with any", f.compare(none, any), 3);
+        Check.same("all with no", f.compare(all, no), 2);
+        Check.same("all with any", f.compare(all, any), 1);
+        Check.same("asked of none", f.asked(none), 255 / 128.0);
+    }
+
+    private static int replace(SharedForks f, int old, int made) {
+        f.drop(old);
+        return made;
     }
 
     private static void ownForks() {

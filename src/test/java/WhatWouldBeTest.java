@@ -6,6 +6,7 @@ public final class WhatWouldBeTest {
     public static void main(String[] args) {
         adviseFewest();
         adviseSmallestPlace();
+        adviseEachPlace();
         adviseNone();
         would();
         wouldWithAllNumbersTaken();
@@ -60,6 +61,24 @@ public final class WhatWouldBeTest {
         f.swap(5);
         Check.same("forks then", f.count(1), 8);
         Check.same("advise of none", f.advise(), -1);
+    }
+
+    /** At each place such a fold that just the exchange of two questions there saves forks. */
+    private static void adviseEachPlace() {
+        for (int place = 0; place < 7; place++) {
+            SharedForks f = new SharedForks();
+            int first = f.ask(place);
+            int second = f.ask(place + 1);
+            int chosen = place < 6 ? 7 : 0;
+            int third = f.ask(chosen);
+            int no = f.leaf(false);
+            f.choose(second, third, no);
+            f.choose(second, first, third);
+            int forks = f.count(1);
+            int advice = f.advise();
+            Check.same("advice of " + place, advice, place);
+            Check.same("it saves forks", f.swap(advice) < forks, true);
+        }
     }
 
     private static void adviseNone() {
