@@ -37,7 +37,6 @@ public final class SharedForks {
         for (int place = 0; place < QUESTIONS; place++) {
             questionAt[place] = place;
         }
-        forks.startOver(questionAt);
     }
 
     // ---- folds
