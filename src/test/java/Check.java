@@ -19,6 +19,32 @@ final class Check {
         }
     }
 
+    /** All that about() tells of a fold. */
+    static void about(SharedForks f, int fold, int... due) {
+        for (int what = 0; what < 8; what++) {
+            same("about " + fold + " " + what, f.about(fold, what), due[what]);
+        }
+    }
+
+    /** All that fork() tells of a fork. */
+    static void fork(SharedForks f, int fold, int place, int... due) {
+        for (int what = 0; what < 5; what++) {
+            same("fork " + fold + " " + place + " " + what, f.fork(fold, place, what), due[what]);
+        }
+    }
+
+    static void counts(SharedForks f, int... due) {
+        for (int what = 0; what < 5; what++) {
+            same("count " + what, f.count(what), due[what]);
+        }
+    }
+
+    static void order(SharedForks f, int... due) {
+        for (int place = 0; place < 8; place++) {
+            same("order " + place, f.order(place), due[place]);
+        }
+    }
+
     static void index(SharedForks forks, String what, Call call) {
         refused(forks, what, call, IndexOutOfBoundsException.class);
     }

@@ -8,24 +8,15 @@ public final class FoldsTest {
     }
 
     public static void main(String[] args) {
-        newObject();
         newObjectsAreApart();
         leaf();
         ask();
         join();
-        joinOfOneFold();
-        joinRefuses();
         choose();
-        chooseRefuses();
         given();
-        givenRefuses();
         without();
-        withoutRefuses();
         drop();
         nothingStaysOfADroppedFold();
-        smallestFreeNumber();
-        fullObjectRefuses();
-        wrongArgumentComesBeforeFullObject();
         Check.end();
     }
 
@@ -44,29 +35,6 @@ public final class FoldsTest {
             count += rule.yes(answers) ? 1 : 0;
         }
         Check.same("yes of " + name, f.about(fold, 1), count);
-    }
-
-    private static SharedForks full() {
-        SharedForks f = new SharedForks();
-        for (int number = 0; number < 12; number++) {
-            f.ask(number % 8);
-        }
-        return f;
-    }
-
-    private static void newObject() {
-        SharedForks f = new SharedForks();
-        for (int what = 0; what < 5; what++) {
-            Check.same("new count " + what, f.count(what), 0);
-        }
-        for (int place = 0; place < 8; place++) {
-            Check.same("new order " + place, f.order(place), place);
-        }
-        for (int number = 0; number < 12; number++) {
-            Check.same("new has " + number, f.has(number), false);
-        }
-        Check.same("new advise", f.advise(), -1);
-        Check.same("new mean", f.mean(), 0.0);
     }
 
     private static void newObjectsAreApart() {
@@ -98,11 +66,6 @@ public final class FoldsTest {
             says(f, 1, "ask " + question, answers -> bit(answers, asked));
             Check.same("question asked", f.fork(1, 0, 0), question);
         }
-        SharedForks f = new SharedForks();
-        Check.index(f, "ask -1", () -> f.ask(-1));
-        Check.index(f, "ask 8", () -> f.ask(8));
-        Check.index(f, "ask the least int", () -> f.ask(Integer.MIN_VALUE));
-        Check.index(f, "ask the greatest int", () -> f.ask(Integer.MAX_VALUE));
     }
 
     private static boolean joined(boolean a, boolean b, int what) {
@@ -122,34 +85,6 @@ public final class FoldsTest {
         }
     }
 
-    private static void joinOfOneFold() {
-        SharedForks f = new SharedForks();
-        f.ask(6);
-        for (int what = 0; what < 6; what++) {
-            int fold = f.join(0, 0, what);
-            Check.same("join with itself to no " + what, f.says(fold, 0), joined(false, false, what));
-            Check.same("join with itself to yes " + what, f.says(fold, 64), joined(true, true, what));
-        }
-        Check.same("joins with itself that are leaves", f.count(4), 2);
-    }
-
-    private static void joinRefuses() {
-        SharedForks f = new SharedForks();
-        f.ask(0);
-        f.ask(1);
-        f.ask(2);
-        f.drop(1);
-        Check.index(f, "join of -1", () -> f.join(-1, 0, 0));
-        Check.index(f, "join of 12", () -> f.join(12, 0, 0));
-        Check.index(f, "join of a dropped fold", () -> f.join(1, 0, 0));
-        Check.index(f, "join with -1", () -> f.join(0, -1, 0));
-        Check.index(f, "join with 12", () -> f.join(0, 12, 0));
-        Check.index(f, "join with a number never used", () -> f.join(0, 3, 0));
-        Check.index(f, "join by -1", () -> f.join(0, 2, -1));
-        Check.index(f, "join by 6", () -> f.join(0, 2, 6));
-        Check.same("join after that", f.join(0, 2, 5), 1);
-    }
-
     private static void choose() {
         SharedForks f = new SharedForks();
         f.ask(7);
@@ -161,18 +96,6 @@ public final class FoldsTest {
         Check.same("it is that one", f.compare(4, 2), 0);
         Check.same("choose by itself", f.choose(0, 0, 1), 5);
         says(f, 5, "choose by itself", answers -> bit(answers, 7) || bit(answers, 0));
-    }
-
-    private static void chooseRefuses() {
-        SharedForks f = new SharedForks();
-        f.ask(0);
-        f.ask(1);
-        f.drop(0);
-        for (int bad : new int[] {-1, 0, 2, 12}) {
-            Check.index(f, "choose by " + bad, () -> f.choose(bad, 1, 1));
-            Check.index(f, "choose yes " + bad, () -> f.choose(1, bad, 1));
-            Check.index(f, "choose no " + bad, () -> f.choose(1, 1, bad));
-        }
     }
 
     private static void given() {
@@ -189,16 +112,6 @@ public final class FoldsTest {
         Check.same("questions that matter then", f.about(3, 2), 64);
     }
 
-    private static void givenRefuses() {
-        SharedForks f = new SharedForks();
-        f.ask(0);
-        Check.index(f, "given of -1", () -> f.given(-1, 0, true));
-        Check.index(f, "given of 1", () -> f.given(1, 0, true));
-        Check.index(f, "given of 12", () -> f.given(12, 0, true));
-        Check.index(f, "given -1", () -> f.given(0, -1, true));
-        Check.index(f, "given 8", () -> f.given(0, 8, false));
-    }
-
     private static void without() {
         SharedForks f = new SharedForks();
         f.ask(1);
@@ -213,16 +126,6 @@ public final class FoldsTest {
         Check.same("without what does not matter", f.compare(6, 3), 0);
     }
 
-    private static void withoutRefuses() {
-        SharedForks f = new SharedForks();
-        f.ask(0);
-        Check.index(f, "without of -1", () -> f.without(-1, 0, true));
-        Check.index(f, "without of 1", () -> f.without(1, 0, true));
-        Check.index(f, "without of 12", () -> f.without(12, 0, true));
-        Check.index(f, "without -1", () -> f.without(0, -1, true));
-        Check.index(f, "without 8", () -> f.without(0, 8, false));
-    }
-
     private static void drop() {
         SharedForks f = new SharedForks();
         f.ask(0);
@@ -235,9 +138,6 @@ public final class FoldsTest {
         Check.same("drop of the join", f.drop(2), 1);
         Check.same("forks left", f.count(1), 1);
         Check.same("the first one stays", f.says(0, 1), true);
-        Check.index(f, "drop twice", () -> f.drop(2));
-        Check.index(f, "drop -1", () -> f.drop(-1));
-        Check.index(f, "drop 12", () -> f.drop(12));
         Check.same("drop of the last", f.drop(0), 0);
         Check.same("forks of none", f.count(1), 0);
     }
@@ -269,39 +169,5 @@ public final class FoldsTest {
         int ends = (f.says(dropped, 0) ? 1 : 0) + (f.says(dropped, 255) ? 2 : 0);
         Check.same("ends of " + name + " where all was " + stale, ends, due);
         f.drop(dropped);
-    }
-
-    private static void smallestFreeNumber() {
-        SharedForks f = full();
-        f.drop(9);
-        f.drop(3);
-        f.drop(7);
-        Check.same("smallest free", f.leaf(true), 3);
-        Check.same("next free", f.join(0, 1, 0), 7);
-        Check.same("last free", f.ask(2), 9);
-        Check.state(f, "leaf then", () -> f.leaf(true));
-        Check.same("what 3 says", f.says(3, 0), true);
-    }
-
-    private static void fullObjectRefuses() {
-        SharedForks f = full();
-        Check.state(f, "full leaf", () -> f.leaf(false));
-        Check.state(f, "full ask", () -> f.ask(7));
-        Check.state(f, "full join", () -> f.join(0, 1, 5));
-        Check.state(f, "full choose", () -> f.choose(0, 1, 2));
-        Check.state(f, "full given", () -> f.given(11, 7, true));
-        Check.state(f, "full without", () -> f.without(11, 7, true));
-    }
-
-    private static void wrongArgumentComesBeforeFullObject() {
-        SharedForks f = full();
-        Check.index(f, "full ask 8", () -> f.ask(8));
-        Check.index(f, "full join of 12", () -> f.join(12, 0, 0));
-        Check.index(f, "full join by 6", () -> f.join(0, 0, 6));
-        Check.index(f, "full choose of -1", () -> f.choose(0, 0, -1));
-        Check.index(f, "full given of 12", () -> f.given(12, 0, true));
-        Check.index(f, "full given 8", () -> f.given(0, 8, true));
-        Check.index(f, "full without of 12", () -> f.without(12, 0, true));
-        Check.index(f, "full without -1", () -> f.without(0, -1, true));
     }
 }

@@ -8,42 +8,25 @@ public final class OrderTest {
         swapLaysForksAnew();
         swapKeepsWhatIsSaid();
         newFoldsKeepToTheOrder();
-        refused();
         Check.end();
-    }
-
-    private static void order(SharedForks f, int... due) {
-        for (int place = 0; place < 8; place++) {
-            Check.same("order " + place, f.order(place), due[place]);
-        }
     }
 
     /** Yes if 0 and 2 are, or 1 and 3: forks are fewest if 0 stands next to 2, and 1 next to 3. */
     private static int pairs(SharedForks f) {
-        int zero = f.ask(0);
-        int one = f.ask(1);
-        int two = f.ask(2);
-        int three = f.ask(3);
-        int even = f.join(zero, two, 0);
-        int odd = f.join(one, three, 0);
-        int pairs = f.join(even, odd, 1);
-        for (int fold : new int[] {zero, one, two, three, even, odd}) {
-            f.drop(fold);
-        }
-        return pairs;
+        return Build.pairs(f, 0, 2, 1, 3);
     }
 
     private static void swapExchangesTwoQuestions() {
         SharedForks f = new SharedForks();
         Check.same("swap without folds", f.swap(0), 0);
-        order(f, 1, 0, 2, 3, 4, 5, 6, 7);
+        Check.order(f, 1, 0, 2, 3, 4, 5, 6, 7);
         f.swap(6);
-        order(f, 1, 0, 2, 3, 4, 5, 7, 6);
+        Check.order(f, 1, 0, 2, 3, 4, 5, 7, 6);
         f.swap(1);
         f.swap(2);
-        order(f, 1, 2, 3, 0, 4, 5, 7, 6);
+        Check.order(f, 1, 2, 3, 0, 4, 5, 7, 6);
         f.swap(6);
-        order(f, 1, 2, 3, 0, 4, 5, 6, 7);
+        Check.order(f, 1, 2, 3, 0, 4, 5, 6, 7);
     }
 
     private static void swapLaysForksAnew() {
@@ -66,7 +49,7 @@ public final class OrderTest {
         for (int place = 0; place < 7; place++) {
             f.swap(place);
         }
-        order(f, 1, 2, 3, 4, 5, 6, 7, 0);
+        Check.order(f, 1, 2, 3, 4, 5, 6, 7, 0);
         for (int answers = 0; answers < 256; answers++) {
             boolean due = answers % 2 == 1 && (answers & 4) != 0 || (answers & 10) == 10;
             Check.same("says to " + answers, f.says(fold, answers), due);
@@ -84,17 +67,5 @@ public final class OrderTest {
         Check.same("first question of a new fold", f.fork(2, 0, 0), 1);
         Check.same("its high part is the other", f.fork(2, 1, 0), 0);
         Check.same("forks that ask the first question", f.count(3), 2);
-    }
-
-    private static void refused() {
-        SharedForks f = new SharedForks();
-        f.ask(0);
-        Check.index(f, "swap -1", () -> f.swap(-1));
-        Check.index(f, "swap 7", () -> f.swap(7));
-        Check.index(f, "swap 8", () -> f.swap(8));
-        Check.index(f, "swap the greatest int", () -> f.swap(Integer.MAX_VALUE));
-        Check.index(f, "order -1", () -> f.order(-1));
-        Check.index(f, "order 8", () -> f.order(8));
-        Check.same("order 7", f.order(7), 7);
     }
 }

@@ -8,15 +8,12 @@ public final class WhatThereIsTest {
         forksOfAnOddNumber();
         aheadIsTheShortestWay();
         ownersOfForks();
-        forkRefuses();
         aboutAQuestion();
-        aboutLeaves();
         aboutAMixedFold();
         aboutFoldsWithOneYes();
         ownForks();
         asked();
         compare();
-        compareRefuses();
         count();
         has();
         Check.end();
@@ -35,12 +32,6 @@ public final class WhatThereIsTest {
         return new int[] {question, low, high, ahead, owners};
     }
 
-    private static void about(SharedForks f, int fold, int... due) {
-        for (int what = 0; what < 8; what++) {
-            Check.same("about " + fold + " " + what, f.about(fold, what), due[what]);
-        }
-    }
-
     private static void says() {
         SharedForks f = new SharedForks();
         f.ask(7);
@@ -48,12 +39,6 @@ public final class WhatThereIsTest {
         Check.same("says to 128", f.says(0, 128), true);
         Check.same("says to 0", f.says(0, 0), false);
         Check.same("says to 255", f.says(0, 255), true);
-        Check.argument(f, "says to -1", () -> f.says(0, -1));
-        Check.argument(f, "says to 256", () -> f.says(0, 256));
-        Check.index(f, "says of -1", () -> f.says(-1, 0));
-        Check.index(f, "says of 1", () -> f.says(1, 0));
-        Check.index(f, "says of 12", () -> f.says(12, 0));
-        Check.index(f, "says of no fold to 256", () -> f.says(1, 256));
     }
 
     private static void forksOfAnOddNumber() {
@@ -106,44 +91,10 @@ public final class WhatThereIsTest {
         Check.same("another one is", f.fork(2, 0, 4), 2);
     }
 
-    private static void forkRefuses() {
-        SharedForks f = new SharedForks();
-        f.ask(0);
-        f.leaf(true);
-        Check.index(f, "fork of -1", () -> f.fork(-1, 0, 0));
-        Check.index(f, "fork of 2", () -> f.fork(2, 0, 0));
-        Check.index(f, "fork of 12", () -> f.fork(12, 0, 0));
-        Check.index(f, "fork at -1", () -> f.fork(0, -1, 0));
-        Check.index(f, "fork at 1", () -> f.fork(0, 1, 0));
-        Check.index(f, "fork at 77", () -> f.fork(0, 77, 0));
-        Check.index(f, "fork of a leaf", () -> f.fork(1, 0, 0));
-        Check.index(f, "fork what -1", () -> f.fork(0, 0, -1));
-        Check.index(f, "fork what 5", () -> f.fork(0, 0, 5));
-        f.ask(1);
-        f.join(0, 2, 0);
-        f.join(0, 2, 3);
-        f.drop(3);
-        f.leaf(true);
-        Check.index(f, "fork of a leaf in the place of a fold", () -> f.fork(3, 0, 0));
-    }
-
     private static void aboutAQuestion() {
         SharedForks f = new SharedForks();
         f.ask(5);
-        about(f, 0, 1, 128, 32, 1, 1, 32, 255, 1);
-        Check.index(f, "about of -1", () -> f.about(-1, 0));
-        Check.index(f, "about of 1", () -> f.about(1, 0));
-        Check.index(f, "about of 12", () -> f.about(12, 0));
-        Check.index(f, "about -1", () -> f.about(0, -1));
-        Check.index(f, "about 8", () -> f.about(0, 8));
-    }
-
-    private static void aboutLeaves() {
-        SharedForks f = new SharedForks();
-        f.leaf(false);
-        f.leaf(true);
-        about(f, 0, 0, 0, 0, 0, 0, -1, -1, 0);
-        about(f, 1, 0, 256, 0, 0, 0, 0, 255, 0);
+        Check.about(f, 0, 1, 128, 32, 1, 1, 32, 255, 1);
     }
 
     /** Yes if neither 7 nor 1 is, or all of 7, 2 and 3 are. */
@@ -156,11 +107,11 @@ public final class WhatThereIsTest {
         f.join(2, 3, 0);
         f.join(1, 1, 4);
         f.choose(0, 4, 5);
-        about(f, 6, 7, 96, 128 + 2 + 4 + 8, 2, 4, 0, 255, 6);
+        Check.about(f, 6, 7, 96, 128 + 2 + 4 + 8, 2, 4, 0, 255, 6);
         f.given(6, 7, false);
-        about(f, 7, 1, 128, 2, 1, 1, 0, 253, 0);
+        Check.about(f, 7, 1, 128, 2, 1, 1, 0, 253, 0);
         f.given(6, 7, true);
-        about(f, 8, 2, 64, 12, 1, 2, 12, 255, 0);
+        Check.about(f, 8, 2, 64, 12, 1, 2, 12, 255, 0);
     }
 
     /** Yes to 0 alone, and to 255 alone; these two differ from a leaf in the very last answers. */
@@ -176,9 +127,9 @@ public final class WhatThereIsTest {
             f.drop(asked);
         }
         int none = f.join(any, any, 4);
-        about(f, none, 8, 1, 255, 1, 8, 0, 0, 8);
-        about(f, all, 8, 1, 255, 1, 8, 255, 255, 7);
-        about(f, any, 8, 255, 255, 1, 8, 1, 255, 7);
+        Check.about(f, none, 8, 1, 255, 1, 8, 0, 0, 8);
+        Check.about(f, all, 8, 1, 255, 1, 8, 255, 255, 7);
+        Check.about(f, any, 8, 255, 255, 1, 8, 1, 255, 7);
         Check.same("none with no", f.compare(none, no), 2);
         Check.same("no with none", f.compare(no, none), 1);
         Check.same("none with any", f.compare(none, any), 3);
@@ -224,9 +175,6 @@ public final class WhatThereIsTest {
             Check.same("least asked", f.about(all, 3), 1);
             Check.same("most asked", f.about(all, 4), question + 1);
         }
-        Check.index(f, "asked of -1", () -> f.asked(-1));
-        Check.index(f, "asked of a free number", () -> f.asked(11));
-        Check.index(f, "asked of 12", () -> f.asked(12));
     }
 
     private static void compare() {
@@ -251,48 +199,29 @@ public final class WhatThereIsTest {
         }
     }
 
-    private static void compareRefuses() {
-        SharedForks f = new SharedForks();
-        f.ask(0);
-        Check.index(f, "compare -1", () -> f.compare(-1, 0));
-        Check.index(f, "compare 1", () -> f.compare(1, 0));
-        Check.index(f, "compare 12", () -> f.compare(12, 0));
-        Check.index(f, "compare with -1", () -> f.compare(0, -1));
-        Check.index(f, "compare with 1", () -> f.compare(0, 1));
-        Check.index(f, "compare with 12", () -> f.compare(0, 12));
-    }
-
-    private static void counts(SharedForks f, int... due) {
-        for (int what = 0; what < 5; what++) {
-            Check.same("count " + what, f.count(what), due[what]);
-        }
-    }
-
     private static void count() {
         SharedForks f = new SharedForks();
         f.ask(0);
-        counts(f, 1, 1, 1, 1, 0);
+        Check.counts(f, 1, 1, 1, 1, 0);
         f.ask(1);
-        counts(f, 2, 2, 2, 1, 0);
+        Check.counts(f, 2, 2, 2, 1, 0);
         f.join(0, 1, 0);
-        counts(f, 3, 3, 4, 2, 0);
+        Check.counts(f, 3, 3, 4, 2, 0);
         f.join(0, 1, 0);
-        counts(f, 4, 3, 6, 2, 0);
+        Check.counts(f, 4, 3, 6, 2, 0);
         f.leaf(false);
         f.leaf(true);
         f.leaf(true);
-        counts(f, 7, 3, 6, 2, 3);
+        Check.counts(f, 7, 3, 6, 2, 3);
         f.swap(0);
-        counts(f, 7, 3, 6, 2, 3);
+        Check.counts(f, 7, 3, 6, 2, 3);
         f.swap(0);
         f.swap(1);
         f.swap(0);
-        counts(f, 7, 3, 6, 0, 3);
+        Check.counts(f, 7, 3, 6, 0, 3);
         f.drop(0);
         f.drop(5);
-        counts(f, 5, 2, 5, 0, 2);
-        Check.index(f, "count -1", () -> f.count(-1));
-        Check.index(f, "count 5", () -> f.count(5));
+        Check.counts(f, 5, 2, 5, 0, 2);
     }
 
     private static void has() {
@@ -304,7 +233,5 @@ public final class WhatThereIsTest {
         Check.same("has 1", f.has(1), true);
         Check.same("has 2", f.has(2), false);
         Check.same("has 11", f.has(11), false);
-        Check.index(f, "has -1", () -> f.has(-1));
-        Check.index(f, "has 12", () -> f.has(12));
     }
 }

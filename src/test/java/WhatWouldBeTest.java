@@ -5,12 +5,8 @@ public final class WhatWouldBeTest {
 
     public static void main(String[] args) {
         adviseFewest();
-        adviseSmallestPlace();
         adviseEachPlace();
-        adviseNone();
         would();
-        wouldWithAllNumbersTaken();
-        wouldRefuses();
         mean();
         digestOfNoFolds();
         digestOfFolds();
@@ -24,43 +20,14 @@ public final class WhatWouldBeTest {
         return d;
     }
 
-    /** A fold that says yes if both questions of a pair are answered so, for one pair or more. */
-    private static int pairs(SharedForks f, int... questions) {
-        int any = f.leaf(false);
-        for (int i = 0; i < questions.length; i += 2) {
-            int one = f.ask(questions[i]);
-            int other = f.ask(questions[i + 1]);
-            int both = f.join(one, other, 0);
-            int more = f.join(any, both, 1);
-            for (int fold : new int[] {any, one, other, both}) {
-                f.drop(fold);
-            }
-            any = more;
-        }
-        return any;
-    }
-
     private static void adviseFewest() {
         SharedForks f = new SharedForks();
-        pairs(f, 0, 2, 1, 3);
+        Build.pairs(f, 0, 2, 1, 3);
         long before = f.digest();
         Check.same("advise", f.advise(), 1);
         Check.same("digest after advise", f.digest(), before);
         Check.same("swap as advised", f.swap(1), 4);
         Check.same("advise then", f.advise(), -1);
-    }
-
-    /** Two pairs of places would each save the same; the smaller one is told, and not the first that saves at all. */
-    private static void adviseSmallestPlace() {
-        SharedForks f = new SharedForks();
-        pairs(f, 0, 2, 1, 3);
-        pairs(f, 4, 6, 5, 7);
-        Check.same("advise of two that are alike", f.advise(), 1);
-        f.swap(1);
-        Check.same("advise of the other", f.advise(), 5);
-        f.swap(5);
-        Check.same("forks then", f.count(1), 8);
-        Check.same("advise of none", f.advise(), -1);
     }
 
     /** At each place such a fold that just the exchange of two questions there saves forks. */
@@ -79,17 +46,6 @@ public final class WhatWouldBeTest {
             Check.same("advice of " + place, advice, place);
             Check.same("it saves forks", f.swap(advice) < forks, true);
         }
-    }
-
-    private static void adviseNone() {
-        SharedForks f = new SharedForks();
-        Check.same("advise without folds", f.advise(), -1);
-        f.leaf(true);
-        Check.same("advise with a leaf", f.advise(), -1);
-        f.ask(0);
-        f.ask(1);
-        f.join(1, 2, 0);
-        Check.same("advise if each swap leaves as many", f.advise(), -1);
     }
 
     private static void would() {
@@ -114,29 +70,6 @@ public final class WhatWouldBeTest {
         f.swap(1);
         f.swap(0);
         Check.same("would in another order", f.would(3, 2, 0), 4);
-    }
-
-    private static void wouldWithAllNumbersTaken() {
-        SharedForks f = new SharedForks();
-        for (int number = 0; number < 12; number++) {
-            f.ask(number % 8);
-        }
-        long before = f.digest();
-        Check.same("would of a full object", f.would(0, 1, 2), 3);
-        Check.same("digest of a full object", f.digest(), before);
-    }
-
-    private static void wouldRefuses() {
-        SharedForks f = new SharedForks();
-        f.ask(0);
-        Check.index(f, "would of -1", () -> f.would(-1, 0, 0));
-        Check.index(f, "would of 1", () -> f.would(1, 0, 0));
-        Check.index(f, "would of 12", () -> f.would(12, 0, 0));
-        Check.index(f, "would with -1", () -> f.would(0, -1, 0));
-        Check.index(f, "would with 1", () -> f.would(0, 1, 0));
-        Check.index(f, "would with 12", () -> f.would(0, 12, 0));
-        Check.index(f, "would by -1", () -> f.would(0, 0, -1));
-        Check.index(f, "would by 6", () -> f.would(0, 0, 6));
     }
 
     private static void mean() {
